@@ -21,8 +21,11 @@ public final class SpelledTones {
     private final Piece[] images = new Piece[IMAGES];
     private final Acts acts = new Acts();
     private final Asks asks = new Asks();
-    // BEST is asked far more often than the piece changes, so it is worked out once behind a change.
-    private boolean stale = true;
+    // BEST and HEADS are asked far more often than the piece changes: they are worked out once behind a change.
+    private boolean bestStale = true;
+    private boolean headsStale = true;
+    private int headSignature = 0;
+    private int headCost = 0;
     private int latestFault = 0;
     private int latestFinding = 0;
 
@@ -107,7 +110,7 @@ public final class SpelledTones {
         }
         now.becomeLike(trial);
         acts.forgetAll();
-        stale = true;
+        changed();
         return now.chords;
     }
 
@@ -177,7 +180,7 @@ public final class SpelledTones {
             return STATE;
         }
         acts.takeBack(now);
-        stale = true;
+        changed();
         return acts.size;
     }
 
@@ -246,8 +249,8 @@ public final class SpelledTones {
             case 0: return settled().cost;
             case 1: return settled().ways;
             case 2: return settled().signs;
-            case 3: return cheapestSignature();
-            case 4: return costSigned(cheapestSignature());
+            case 3: return signatureOfHeads();
+            case 4: return costOfHeads();
             case 5: return costOfOne(cheapestOne());
             case 6: return cheapestOne();
             default: return BAD;
@@ -327,7 +330,7 @@ public final class SpelledTones {
         }
         now.becomeLike(images[k]);
         acts.forgetAll();
-        stale = true;
+        changed();
         return 1;
     }
 
@@ -385,7 +388,12 @@ public final class SpelledTones {
 
     private void acted(int act, int where, int before) {
         acts.keep(act, where, before);
-        stale = true;
+        changed();
+    }
+
+    private void changed() {
+        bestStale = true;
+        headsStale = true;
     }
 
     private boolean isNoPiece() {
@@ -413,34 +421,41 @@ public final class SpelledTones {
     }
 
     private Best settled() {
-        if (stale) {
+        if (bestStale) {
             best.solve(now);
             best.spell(now);
-            stale = false;
+            bestStale = false;
         }
         return best;
     }
 
     // ---- what is foretold
 
-    private int costSigned(int signature) {
+    private void findHeads() {
+        if (!headsStale) {
+            return;
+        }
         trial.becomeLike(now);
-        trial.signature = signature;
-        trialBest.solve(trial);
-        return trialBest.cost;
-    }
-
-    private int cheapestSignature() {
-        int cheapest = 0;
-        int least = costSigned(0);
-        for (int v = 1; v < SIGNATURES; v++) {
-            int cost = costSigned(v);
-            if (cost < least) {
-                least = cost;
-                cheapest = v;
+        headCost = Integer.MAX_VALUE;
+        for (int v = 0; v < SIGNATURES; v++) {
+            trial.signature = v;
+            trialBest.solve(trial);
+            if (trialBest.cost < headCost) {
+                headCost = trialBest.cost;
+                headSignature = v;
             }
         }
-        return cheapest;
+        headsStale = false;
+    }
+
+    private int signatureOfHeads() {
+        findHeads();
+        return headSignature;
+    }
+
+    private int costOfHeads() {
+        findHeads();
+        return headCost;
     }
 
     private int costOfOne(int window) {

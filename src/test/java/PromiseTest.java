@@ -105,11 +105,14 @@ public final class PromiseTest {
         due(2, "row(7, 1, 4) in place of it", x.row(7, 1, 4), 4);
         due(2, "it has its new lane", x.set(7, 2, 70000), 4464);
         due(2, "it has its new length", x.set(7, 4, 1), PLACE);
-        SpelledTones y = of("k7;c0,4,7;");
+        // Key 5 is e sharp in window 0, f in window -1.
+        SpelledTones y = of("k7;c5;");
         y.row(1, 2, 1);
-        y.set(1, 0, 9);
+        due(2, "items are 0 at first", y.cost(1, 0), 2);
+        y.set(1, 0, -1);
+        due(2, "not so now", y.cost(1, 0), 0);
         y.row(1, 2, 1);
-        due(2, "items are 0 again", y.cost(1, 0), 0);
+        due(2, "items are 0 again", y.cost(1, 0), 2);
         due(2, "row(8, ..)", x.row(8, 0, 1), BAD);
         due(2, "row(-1, ..)", x.row(-1, 0, 1), BAD);
         due(2, "lane 3", x.row(1, 3, 1), BAD);
@@ -224,6 +227,17 @@ public final class PromiseTest {
         due(7, "forty notes", tell(x, most.toString()), 10);
         due(7, "so many", x.count(2), 40);
         due(7, "its last", x.note(39, 0), 3);
+        StringBuilder full = new StringBuilder("k7;c0,1,2,3;");
+        for (int i = 0; i < 9; i++) {
+            full.append(i < 8 ? "b;f;c0,1,2,3;" : "b;f;c0,1,2,10;");
+        }
+        due(7, "a full tape", full.length(), 130);
+        due(7, "is read", tell(x, full.toString()), 10);
+        tell(x, "k7;c0;");
+        due(7, "BEST of one", x.whole(0), 0);
+        tell(x, "k7;c6;");
+        due(7, "BEST of the one in its place", x.whole(0), 2);
+        due(7, "forty notes again", tell(x, most.toString()), 10);
         x.key(0, 5);
         due(7, "a fault", tell(x, "k7;x"), -1000103);
         due(7, "all stays", x.count(2), 40);
@@ -286,6 +300,9 @@ public final class PromiseTest {
         faultOf(ten + "b;", 35, 1);
         SpelledTones x = new SpelledTones();
         due(8, "before one", x.fault(), 0);
+        tell(x, "k7;c1234567");
+        due(7, "what was read before is not read again", tell(x, "k7;c1"), -1000105);
+        due(7, "nor behind two figures", tell(x, "k7;c10"), -1000106);
         tell(x, "k15;");
         tell(x, "k7;c0;");
         due(8, "the latest stays", x.fault(), 2);
@@ -315,14 +332,16 @@ public final class PromiseTest {
         due(10, "plain: a flat", x.note(0, 4), -1);
         due(10, "become(0, 2)", x.become(0, 2), 1);
         due(10, "rising: a sharp", x.note(0, 4), 1);
-        due(10, "become(0, 5)", x.become(0, 5), 2);
+        due(10, "become(0, 1)", x.become(0, 1), 2);
+        due(10, "plain: a flat again", x.note(0, 4), -1);
+        due(10, "become(0, 5)", x.become(0, 5), 1);
         due(10, "become(0, 5) again", x.become(0, 5), STATE);
         due(10, "kind 0", x.become(0, 0), BAD);
         due(10, "kind 6", x.become(0, 6), BAD);
         due(10, "chord 2", x.become(2, 1), BAD);
         due(10, "chord -1", x.become(-1, 1), BAD);
         due(10, "kind(0)", x.kind(0), 5);
-        due(10, "acts", x.count(4), 2);
+        due(10, "acts", x.count(4), 3);
         due(10, "no piece", new SpelledTones().become(0, 1), BAD);
     }
 
@@ -386,6 +405,36 @@ public final class PromiseTest {
         }
         due(13, "the oldest four are forgotten", x.undo(), STATE);
         due(13, "their key stays", x.note(0, 0), 2);
+        oldestForgotten();
+        SpelledTones y = of("k7;c0;");
+        y.key(0, 6);
+        due(13, "cost of f sharp", y.whole(0), 2);
+        y.undo();
+        due(13, "cost of c", y.whole(0), 0);
+    }
+
+    /** 21 acts of all sorts on different notes and chords: five are forgotten, all others taken back. */
+    private static void oldestForgotten() {
+        SpelledTones x = of("k7;c0,1,2,3;c4,5,6,7;");
+        for (int i = 0; i < 5; i++) {
+            x.key(i, 10);
+            x.become(i % 2, 2 + i % 4);
+            x.sign(8 - i);
+            x.shift(1 + i);
+        }
+        x.key(7, 3);
+        due(13, "16 of 21", x.count(4), 16);
+        for (int i = 15; i >= 0; i--) {
+            due(13, "of 21", x.undo(), i);
+        }
+        // What is left: note 0 is 10, chord 0 is rising, the signature 8, all shifted by 1, note 1 is 10.
+        int[] keys = {5, 10, 9, 10, 11, 0, 1, 2};
+        for (int note = 0; note < 8; note++) {
+            due(13, "key of note " + note, x.note(note, 0), keys[note]);
+        }
+        due(13, "kind of chord 0", x.kind(0), 2);
+        due(13, "kind of chord 1", x.kind(1), 1);
+        due(13, "signature", x.count(3), 9);
     }
 
     private static void place() {
@@ -498,11 +547,41 @@ public final class PromiseTest {
         due(19, "cost without a phrase", of("k7;l1,3,6,8;r1,3,6,8;").whole(0), 12);
         due(19, "cost with a phrase", of("k7;l1,3,6,8;f;r1,3,6,8;").whole(0), 10);
         due(19, "plain with a phrase", of("k7;l1,3,6,8;f;r1,3,6,8;").whole(5), 12);
+        SpelledTones low = of("k0;l0,2,3,10;l0,2,3,10;");
+        due(19, "plain: double flats, the lowest window", low.whole(6), low.chord(0, 2));
+        wholeIs("k14;r1,2,7,9;", 4, 1, 4, 9, 0, 4, 8, 8);
+        SpelledTones down = of("k0;r1,3,6,8;c3,5,10;");
+        due(19, "a step down", down.chord(1, 2) <= down.chord(0, 2) ? 1 : 0, 1);
+        SpelledTones held = of("k7;l1,3,6,8;h1,3,6,8;r1,3,6,8;o1;c0;");
+        due(19, "a held one goes along", held.chord(1, 2), held.chord(0, 2));
+        due(19, "a loose one, too", held.chord(3, 2), held.chord(2, 2));
+        SpelledTones loose = of("k14;r2,7,9;o0;c0,4,7;");
+        due(19, "a loose one behind the first", loose.chord(1, 2), loose.chord(0, 2));
+        headsFollow();
         SpelledTones x = of("k7;c0;");
         due(19, "what 7", x.whole(7), BAD);
         due(19, "what -1", x.whole(-1), BAD);
         due(19, "the signature stays", x.count(3), 7);
         due(19, "no piece is ahead of BAD", new SpelledTones().whole(7), STATE);
+    }
+
+    private static void headsFollow() {
+        SpelledTones x = of("k7;c0,4,7;");
+        due(19, "heads of c e g", x.whole(3), 6);
+        x.image(0);
+        x.key(1, 3);
+        due(19, "heads of c, e flat, g", x.whole(3), 3);
+        x.undo();
+        due(19, "heads of c e g again", x.whole(3), 6);
+        x.shift(2);
+        due(19, "heads of d, f sharp, a", x.whole(3), 8);
+        x.become(0, 5);
+        due(19, "heads of a loose one", x.whole(3), 0);
+        x.restore(0);
+        due(19, "heads of an image", x.whole(3), 6);
+        tell(x, "k7;l1,6;l6,8;r6,10;");
+        due(19, "heads of another piece", x.whole(3), 0);
+        due(19, "cost by that", x.whole(4), 0);
     }
 
     private static void price() {
@@ -552,6 +631,11 @@ public final class PromiseTest {
         SpelledTones y = of("k7;h0;");
         items(y, 0);
         due(21, "a held one at first: any window", y.cost(0, 0), 0);
+        SpelledTones z = of("k7;o0;o0;");
+        items(z, 8, 8);
+        due(21, "two loose ones in the highest window", z.cost(0, 0), 0);
+        items(z, -15, -14);
+        due(21, "the second is moved", z.cost(0, 0), NONE);
     }
 
     private static void fits() {
@@ -581,6 +665,29 @@ public final class PromiseTest {
         SpelledTones y = of("k7;c0,4,7;");
         items(y, 1, 5, 2);
         due(22, "c e g: from one flat to six sharps", y.fits(0, 0, 3, 0), 0x3fc0);
+        SpelledTones z = of("k7;c2;");
+        items(z, 3);
+        due(22, "d by all signatures but e double flat, c double sharp", z.fits(0, 0, 1, 0), signaturesOf("c2;", 3));
+        due(22, "d by all kinds but a loose one", z.fits(0, 0, 1, 1), 0x1e);
+        SpelledTones flat = of("k7;c11;");
+        items(flat, 1);
+        due(22, "c flat by signatures", flat.fits(0, 0, 1, 0), signaturesOf("c11;", 1));
+        due(22, "by seven flats it is", flat.fits(0, 0, 1, 0) & 1, 1);
+        SpelledTones c = of("k7;c3,5;");
+        items(c, 1);
+        due(22, "c by keys 0 and 11", c.fits(0, 0, 1, 2) & 1, 1);
+        c.sign(0);
+        due(22, "c flat by seven flats", c.fits(0, 0, 1, 2) >> 11, 1);
+    }
+
+    /** Told by making each of them a piece. */
+    private static int signaturesOf(String chords, int letter) {
+        int bits = 0;
+        for (int v = 0; v < 15; v++) {
+            SpelledTones x = of("k" + v + ";" + chords);
+            bits |= x.note(0, 3) == letter ? 1 << v : 0;
+        }
+        return bits;
     }
 
     private static void drawn() {
@@ -595,6 +702,7 @@ public final class PromiseTest {
         SpelledTones z = of("k7;c6;c7;");
         due(23, "two drawn", x.drawn(2, 1, 0), y.whole(0) + z.whole(0));
         due(23, "signs of the last", x.drawn(2, 1, 1), z.whole(2));
+        drawnByHand();
         due(23, "nothing changes", x.note(1, 0), 5);
         due(23, "no act", x.count(4), 0);
         due(23, "20 by 999999", x.drawn(20, 999999, 0) > 0 ? 1 : 0, 1);
@@ -605,6 +713,23 @@ public final class PromiseTest {
         due(23, "what 2", x.drawn(1, 1, 2), BAD);
         due(23, "what -1", x.drawn(1, 1, -1), BAD);
         due(23, "no piece is ahead of BAD", new SpelledTones().drawn(21, 1, 0), STATE);
+    }
+
+    /** Twenty draws on a piece of one note, and on one of five, each made an act. */
+    private static void drawnByHand() {
+        for (String text : new String[] {"k4;c6;", "k12;c1,5;r6,9;l2;"}) {
+            SpelledTones x = of(text);
+            SpelledTones y = of(text);
+            long draw = 4711;
+            int sum = 0;
+            for (int n = 1; n <= 20; n++) {
+                draw = draw * 16807 % 2147483647L;
+                y.key((int) (draw % y.count(2)), (int) (draw / 32 % 12));
+                sum += y.whole(0);
+                due(23, n + " drawn of " + text, x.drawn(n, 4711, 0), sum);
+                due(23, "signs of " + n + " drawn of " + text, x.drawn(n, 4711, 1), y.whole(2));
+            }
+        }
     }
 
     private static void image() {
@@ -643,7 +768,9 @@ public final class PromiseTest {
         due(25, "BEST", x.whole(0), 8);
         due(25, "no act can be undone", x.undo(), STATE);
         x.key(0, 5);
+        due(25, "BEST is another", x.whole(0) == 8 ? 1 : 0, 0);
         due(25, "again", x.restore(0), 1);
+        due(25, "BEST, again", x.whole(0), 8);
         due(25, "the image is as it was", x.note(0, 0), 2);
         due(25, "the other was not kept", x.restore(1), STATE);
     }
@@ -782,8 +909,11 @@ public final class PromiseTest {
         due(31, "cost", x.status(), 0);
         x.fits(0, 2, 1, 0);
         due(31, "NULL of fits", x.status(), 1);
-        x.fits(0, 0, 1, 0);
-        due(31, "fits", x.status(), 0);
+        for (int what = 0; what < 3; what++) {
+            x.drop(7);
+            x.fits(0, 0, 1, what);
+            due(31, "fits", x.status(), 0);
+        }
         x.as(0, 4);
         due(31, "KIND", x.status(), 3);
         x.drop(0);
