@@ -105,14 +105,14 @@ public final class PromiseTest {
         due(2, "row(7, 1, 4) in place of it", x.row(7, 1, 4), 4);
         due(2, "it has its new lane", x.set(7, 2, 70000), 4464);
         due(2, "it has its new length", x.set(7, 4, 1), PLACE);
-        // Key 5 is e sharp in window 0, f in window -1.
+        // By BEST key 5 is f, letter 0: an item that is 0 fits, no other one does.
         SpelledTones y = of("k7;c5;");
         y.row(1, 2, 1);
-        due(2, "items are 0 at first", y.cost(1, 0), 2);
-        y.set(1, 0, -1);
-        due(2, "not so now", y.cost(1, 0), 0);
+        due(2, "items are 0 at first", y.fits(0, 1, 1, 0) >> 7 & 1, 1);
+        y.set(1, 0, 9);
+        due(2, "not so now", y.fits(0, 1, 1, 0) >> 7 & 1, 0);
         y.row(1, 2, 1);
-        due(2, "items are 0 again", y.cost(1, 0), 2);
+        due(2, "items are 0 again", y.fits(0, 1, 1, 0) >> 7 & 1, 1);
         due(2, "row(8, ..)", x.row(8, 0, 1), BAD);
         due(2, "row(-1, ..)", x.row(-1, 0, 1), BAD);
         due(2, "lane 3", x.row(1, 3, 1), BAD);
@@ -543,6 +543,7 @@ public final class PromiseTest {
         wholeIs("k7;h6;", 2, 22, 1, 0, 0, 2, -15, -15);
         wholeIs("k7;o6;", 0, 24, 1, 0, 0, 0, -15, -15);
         wholeIs("k7;c0,1;", 2, 7, 1, 2, 0, 2, -11, -11);
+        wholeIs("k0;c3;", 0, 12, 0, 0, 0, 0, -14, -14);
         wholeIs(SEVEN, 8, 10, 6, 0, 7, 8, -4, -4);
         due(19, "cost without a phrase", of("k7;l1,3,6,8;r1,3,6,8;").whole(0), 12);
         due(19, "cost with a phrase", of("k7;l1,3,6,8;f;r1,3,6,8;").whole(0), 10);
