@@ -11,6 +11,8 @@ public final class SpelledTones {
     private static final int MOST_CHORDS = 10, MOST_KEYS = 4, MOST_NOTES = 40;
     private static final int MOST_SHIFT = 6, MOST_DRAWS = 20, HIGHEST_SEED = 999999;
     private static final int MOST_WAYS = 99999999, IMAGES = 2;
+    // Ten chords cost less than a thousand, whatever their windows are.
+    private static final int DEARER_THAN_ALL = 1000000;
 
     private final Rows rows = new Rows();
     private final Tape tape = new Tape();
@@ -436,7 +438,7 @@ public final class SpelledTones {
             return;
         }
         trial.becomeLike(now);
-        headCost = Integer.MAX_VALUE;
+        headCost = DEARER_THAN_ALL;
         for (int v = 0; v < SIGNATURES; v++) {
             trial.signature = v;
             trialBest.solve(trial);
@@ -795,7 +797,7 @@ public final class SpelledTones {
 
         private void choose(int at, int w, boolean phrase) {
             int next = at - w + WINDOWS;
-            int least = Integer.MAX_VALUE;
+            int least = DEARER_THAN_ALL;
             int first = 0;
             long count = 0;
             for (int to = 0; to < WINDOWS; to++) {

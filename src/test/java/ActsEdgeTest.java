@@ -14,6 +14,7 @@ public final class ActsEdgeTest {
         latestFirst();
         sixteenAtMost();
         oldestOfEachSort();
+        anyOrderOfSorts();
         actsBehindUndo();
         refusedActs();
         bestFollowsActs();
@@ -228,6 +229,45 @@ public final class ActsEdgeTest {
                 DUE.is("the kind of the other", x.kind(1), more < 17 ? 1 : 2);
             }
         }
+    }
+
+    /** Acts of all sorts on all notes and chords: behind each undo() all is as it was. */
+    private static void anyOrderOfSorts() {
+        DUE.says("ACTS (16 at most are kept ..; each can be undone, the latest first)");
+        for (int acts = 15; acts <= 37; acts++) {
+            SpelledTones x = DUE.of("k7;c0,1;r4,5,6;l2,9;");
+            int[][] pictures = new int[acts + 1][];
+            for (int i = 0; i < acts; i++) {
+                pictures[i] = keysAndKinds(x);
+                switch (i * 7 % 11 % 4) {
+                    case 0: x.key(i % 7, (x.note(i % 7, 0) + 1 + i % 11) % 12); break;
+                    case 1: x.become(i % 3, x.kind(i % 3) % 5 + 1); break;
+                    case 2: x.sign((x.count(3) + 4) % 15); break;
+                    default: x.shift(x.count(3) > 7 ? -5 : 6); break;
+                }
+                DUE.is("act " + i + " of " + acts, x.count(4), Math.min(i + 1, 16));
+            }
+            for (int i = 1; i <= Math.min(acts, 16); i++) {
+                x.undo();
+                int[] now = keysAndKinds(x);
+                for (int n = 0; n < now.length; n++) {
+                    DUE.is("number " + n + " behind undo " + i + " of " + acts, now[n], pictures[acts - i][n]);
+                }
+            }
+            DUE.is("no more of " + acts, x.undo(), Due.STATE);
+        }
+    }
+
+    private static int[] keysAndKinds(SpelledTones x) {
+        int[] seen = new int[11];
+        for (int note = 0; note < 7; note++) {
+            seen[note] = x.note(note, 0);
+        }
+        for (int chord = 0; chord < 3; chord++) {
+            seen[7 + chord] = x.kind(chord);
+        }
+        seen[10] = x.count(3);
+        return seen;
     }
 
     private static void actsBehindUndo() {

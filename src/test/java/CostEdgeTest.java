@@ -21,6 +21,7 @@ public final class CostEdgeTest {
         manyWays();
         headsTheFirst();
         headsCost();
+        headsCostAlone();
         plainTheLeast();
         wholeBeyond();
         DUE.end();
@@ -233,6 +234,8 @@ public final class CostEdgeTest {
         }
         // From -15 to 6 f sharp is as dear as g flat.
         DUE.is("ten phrases of f sharp", DUE.of("k7;c6;" + "f;c6;".repeat(9)).whole(1), walks(22, 10));
+        // By six flats c, b sharp and d double flat are all as dear to a rising chord.
+        DUE.is("ten phrases, any window", DUE.of("k1;r0;" + "f;r0;".repeat(9)).whole(1), walks(24, 10));
     }
 
     /** The most that a long search over pieces found; keys that are alike are made so by acts. */
@@ -306,6 +309,31 @@ public final class CostEdgeTest {
             DUE.is("SIGNATURE stays", x.count(3), signature);
             DUE.is("no ACT", x.count(4), 0);
         }
+    }
+
+    /** Asked for ahead of SIGNATURE of HEADS, and behind changes. */
+    private static void headsCostAlone() {
+        DUE.says("4 COST by that (by SIGNATURE of HEADS)");
+        String[] texts = {"k7;c0,1;", "k7;c0,1,2,3;", "k0;c0,1,6,7;r2,3;f;l0,8;", "k7;c0,4,7;"};
+        SpelledTones x = DUE.of("k7;c0;");
+        for (String text : texts) {
+            SpelledTones y = DUE.of(text);
+            int least = y.whole(0);
+            for (int v = 0; v <= 14; v++) {
+                y.sign(v);
+                least = Math.min(least, y.whole(0));
+            }
+            DUE.is("COST by HEADS of " + text, DUE.of(text).whole(4), least);
+            Due.tell(x, text);
+            DUE.is("behind another piece, of " + text, x.whole(4), least);
+        }
+        SpelledTones z = DUE.of("k7;c0,1,2,3;");
+        int dear = z.whole(4);
+        z.become(0, 5);
+        DUE.is("behind an act", z.whole(4), 0);
+        z.undo();
+        DUE.is("behind undo()", z.whole(4), dear);
+        DUE.holds("which is not 0", dear > 0);
     }
 
     /** Told by making each of them a piece. */

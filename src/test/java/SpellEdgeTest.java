@@ -12,8 +12,10 @@ public final class SpellEdgeTest {
         notesBeyond();
         fitsAll();
         fitsNone();
+        fitsSignatures();
         fitsKinds();
         fitsKeys();
+        fitsThePieceAsItIs();
         howManyLetters();
         refusalsOfFits();
         foretold();
@@ -159,6 +161,22 @@ public final class SpellEdgeTest {
         return bits;
     }
 
+    private static void fitsSignatures() {
+        DUE.says("SIGNATURES (bits) by which it is so");
+        SpelledTones x = DUE.of("k7;c0,4,7;");
+        Due.items(x, 0, 0, C, E, G);
+        DUE.is("c e g: from one flat to six sharps", x.fits(0, 0, 3, 0), 0x3fc0);
+        SpelledTones y = DUE.of("k7;c11;");
+        for (int letter = 0; letter < 7; letter++) {
+            Due.items(y, 0, 0, letter);
+            DUE.is("letter " + letter, y.fits(0, 0, 1, 0), lettersOf("c11;", letter));
+        }
+        Due.items(y, 0, 0, C);
+        DUE.holds("by seven flats, the first bit", (y.fits(0, 0, 1, 0) & 1) == 1);
+        Due.items(y, 0, 0, B);
+        DUE.holds("by six sharps, the last bit but one", (y.fits(0, 0, 1, 0) >> 13 & 1) == 1);
+    }
+
     private static void fitsKinds() {
         DUE.says("KINDS (bits 1 to 5) of a CHORD");
         SpelledTones x = DUE.of("k7;c6;");
@@ -166,6 +184,9 @@ public final class SpellEdgeTest {
         DUE.is("f sharp: a rising one alone", x.fits(0, 0, 1, 1), 1 << 2);
         x.become(0, 2);
         DUE.is("whatever it is now", x.fits(0, 0, 1, 1), 1 << 2);
+        x.key(0, 5);
+        DUE.is("f: all but a loose one, which has g double flat", x.fits(0, 0, 1, 1), 0x1e);
+        x.undo();
         Due.items(x, 0, 0, G);
         DUE.is("g flat: all others", x.fits(0, 0, 1, 1), 1 << 1 | 1 << 3 | 1 << 4 | 1 << 5);
         Due.items(x, 0, 0, A);
@@ -189,6 +210,36 @@ public final class SpellEdgeTest {
         Due.items(x, 0, 0, C, E, G, D);
         DUE.is("d of the second chord", x.fits(1, 0, 4, 2) & 1 << 2, 1 << 2);
         DUE.is("c cannot be d", x.fits(1, 0, 4, 2) & 1, 0);
+    }
+
+    /** Each of the three asked first behind a change. */
+    private static void fitsThePieceAsItIs() {
+        DUE.says("SIGNATURES; KINDS; KEYS, of the PIECE as it is now");
+        int[] due = {lettersOf("c0,4,7;", C), 0x1e, 1};
+        for (int what = 0; what < 3; what++) {
+            SpelledTones x = DUE.of("k7;c0,4,7;");
+            Due.items(x, 0, 0, C);
+            DUE.is("as told, what " + what, x.fits(0, 0, 1, what), due[what]);
+            x.key(1, 6);
+            x.key(2, 11);
+            SpelledTones y = DUE.of("k7;c0,6,11;");
+            Due.items(y, 0, 0, C);
+            int now = y.fits(0, 0, 1, what);
+            DUE.is("behind acts, what " + what, x.fits(0, 0, 1, what), now);
+            Due.tell(x, "k7;c7;");
+            DUE.is("of another piece, what " + what, x.fits(0, 0, 1, what), what == 2 ? fitOfOne(C) : 0);
+            Due.tell(x, "k7;c0,6,11;");
+            DUE.is("of the one before, what " + what, x.fits(0, 0, 1, what), now);
+        }
+    }
+
+    /** KEYS of a piece of one plain note by which it has a letter. */
+    private static int fitOfOne(int letter) {
+        int bits = 0;
+        for (int key = 0; key < 12; key++) {
+            bits |= DUE.of("k7;c" + key + ";").note(0, 3) == letter ? 1 << key : 0;
+        }
+        return bits;
     }
 
     private static void howManyLetters() {

@@ -98,6 +98,8 @@ public final class TextEdgeTest {
         reads("k7;" + "c0,1,2,3;b;f;".repeat(9) + "c0,1,2,3;", 10, 0);
         reads("k07;" + "c0,1,2,3;b;f;".repeat(9) + "c0,1,2,03", 130, 1);
         reads("k7;" + "c0,1,2,3;b;f;".repeat(9) + "c0,1,2,10", 129, 1);
+        // 130 tokens of one byte each.
+        reads("k7;" + "c0,1,2,3;b;f;".repeat(9) + "c0,1,2,3;b", 130, 1);
     }
 
     /** One byte behind a beginning: those of goesOn can stand there (the end cannot), any other one cannot. */
