@@ -1,6 +1,5 @@
 /** Each boundary that the document names of acts and images: promises 9 to 13, 24, 25. */
 public final class ActsEdgeTest {
-    private static final int[] WILD = {Due.LEAST, Due.LEAST + 1, -1000, 1000, Due.MOST - 1, Due.MOST};
     private static final Due DUE = new Due();
 
     public static void main(String[] args) {
@@ -102,7 +101,7 @@ public final class ActsEdgeTest {
         }
         DUE.is("sign(-1)", x.sign(-1), Due.BAD);
         DUE.is("sign(15)", x.sign(15), Due.BAD);
-        for (int v : WILD) {
+        for (int v : Due.WILD) {
             DUE.is("sign(" + v + ")", x.sign(v), Due.BAD);
         }
         DUE.is("acts", x.count(4), 5);
@@ -146,7 +145,7 @@ public final class ActsEdgeTest {
             }
         }
         SpelledTones x = DUE.of("k7;c5;");
-        for (int v : WILD) {
+        for (int v : Due.WILD) {
             DUE.is("shift(" + v + ")", x.shift(v), Due.BAD);
         }
     }

@@ -1,6 +1,5 @@
 /** Each boundary that the document names of what is asked: kinds, bodies, the trace, counts, status; promises 1, 26 to 31. */
 public final class AskedEdgeTest {
-    private static final int[] WILD = {Due.LEAST, Due.LEAST + 1, -1000, 1000, Due.MOST - 1, Due.MOST};
     private static final String KINDS = "k7;c0,4,7;r0,4;l0;h0,4;o0,4,7;";
     private static final Due DUE = new Due();
 
@@ -50,7 +49,7 @@ public final class AskedEdgeTest {
         }
         DUE.is("kind(-1)", x.kind(-1), Due.BAD);
         DUE.is("kind(5)", x.kind(5), Due.BAD);
-        for (int v : WILD) {
+        for (int v : Due.WILD) {
             DUE.is("kind(" + v + ")", x.kind(v), Due.BAD);
         }
     }
@@ -72,7 +71,7 @@ public final class AskedEdgeTest {
             DUE.is("as(-1, " + kind + ")", x.as(-1, kind), Due.BAD);
             DUE.is("as(5, " + kind + ")", x.as(5, kind), Due.BAD);
         }
-        for (int v : WILD) {
+        for (int v : Due.WILD) {
             DUE.is("as(" + v + ", 0)", x.as(v, 0), Due.BAD);
             DUE.is("as(0, " + v + ")", x.as(0, v), Due.BAD);
         }
@@ -158,7 +157,7 @@ public final class AskedEdgeTest {
             DUE.is("trace(" + i + ") at first", x.trace(i), Due.NONE);
         }
         x.ask(1, 0);
-        for (int v : WILD) {
+        for (int v : Due.WILD) {
             DUE.is("trace(" + v + ")", x.trace(v), Due.NONE);
         }
         DUE.is("trace(5)", x.trace(5), 20);
@@ -179,7 +178,7 @@ public final class AskedEdgeTest {
             DUE.is("ask(" + chord + ", -1)", x.ask(chord, -1), Due.BAD);
             DUE.is("ask(" + chord + ", 2)", x.ask(chord, 2), Due.BAD);
         }
-        for (int v : WILD) {
+        for (int v : Due.WILD) {
             DUE.is("ask(" + v + ", 0)", x.ask(v, 0), Due.BAD);
             DUE.is("ask(0, " + v + ")", x.ask(0, v), Due.BAD);
         }
@@ -199,7 +198,7 @@ public final class AskedEdgeTest {
         }
         DUE.is("count(-1)", x.count(-1), Due.BAD);
         DUE.is("count(6)", x.count(6), Due.BAD);
-        for (int v : WILD) {
+        for (int v : Due.WILD) {
             DUE.is("count(" + v + ")", x.count(v), Due.BAD);
             DUE.is("count(" + v + ") of a new one", new SpelledTones().count(v), Due.BAD);
         }

@@ -3,7 +3,6 @@ import java.util.Arrays;
 /** Each boundary that the document names of windows and costs: COST, BEST, WAYS, HEADS, PLAIN; promises 18, 19, 21. */
 public final class CostEdgeTest {
     private static final int INTS = 2;
-    private static final int[] WILD = {Due.LEAST, Due.LEAST + 1, -1000, 1000, Due.MOST - 1, Due.MOST};
     private static final Due DUE = new Due();
 
     public static void main(String[] args) {
@@ -201,7 +200,7 @@ public final class CostEdgeTest {
             DUE.is("chord(2, " + what + ")", x.chord(2, what), Due.BAD);
             DUE.is("without a piece", new SpelledTones().chord(0, what), Due.BAD);
         }
-        for (int v : WILD) {
+        for (int v : Due.WILD) {
             DUE.is("chord(" + v + ", 0)", x.chord(v, 0), Due.BAD);
             DUE.is("chord(0, " + v + ")", x.chord(0, v), Due.BAD);
         }
@@ -377,7 +376,7 @@ public final class CostEdgeTest {
         }
         DUE.is("whole(-1)", x.whole(-1), Due.BAD);
         DUE.is("whole(7)", x.whole(7), Due.BAD);
-        for (int v : WILD) {
+        for (int v : Due.WILD) {
             DUE.is("whole(" + v + ")", x.whole(v), Due.BAD);
             DUE.is("whole(" + v + ") without a piece", none.whole(v), Due.STATE);
         }

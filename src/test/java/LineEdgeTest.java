@@ -2,7 +2,6 @@
 public final class LineEdgeTest {
     private static final String LETTERS = "fcgdaeb";
     private static final int[] NATURALS = {5, 0, 7, 2, 9, 4, 11};
-    private static final int[] WILD = {Due.LEAST, Due.LEAST + 1, -1000, 1000, Due.MOST - 1, Due.MOST};
     private static final Due DUE = new Due();
 
     public static void main(String[] args) {
@@ -62,7 +61,7 @@ public final class LineEdgeTest {
             DUE.is("place(-16, " + what + ")", x.place(-16, what), Due.BAD);
             DUE.is("place(20, " + what + ")", x.place(20, what), Due.BAD);
         }
-        for (int v : WILD) {
+        for (int v : Due.WILD) {
             DUE.is("place(" + v + ", 0)", x.place(v, 0), Due.BAD);
             DUE.is("place(0, " + v + ")", x.place(0, v), Due.BAD);
         }
@@ -93,7 +92,7 @@ public final class LineEdgeTest {
             DUE.is("inWindow(" + w + ", -1)", x.inWindow(w, -1), Due.BAD);
             DUE.is("inWindow(" + w + ", 12)", x.inWindow(w, 12), Due.BAD);
         }
-        for (int v : WILD) {
+        for (int v : Due.WILD) {
             DUE.is("inWindow(" + v + ", 0)", x.inWindow(v, 0), Due.BAD);
             DUE.is("inWindow(0, " + v + ")", x.inWindow(0, v), Due.BAD);
         }
@@ -117,7 +116,7 @@ public final class LineEdgeTest {
         SpelledTones x = DUE.of("k14;c0;");
         DUE.is("head(-1)", x.head(-1), Due.BAD);
         DUE.is("head(7)", x.head(7), Due.BAD);
-        for (int v : WILD) {
+        for (int v : Due.WILD) {
             DUE.is("head(" + v + ")", x.head(v), Due.BAD);
         }
         SpelledTones none = new SpelledTones();
@@ -231,7 +230,7 @@ public final class LineEdgeTest {
             DUE.holds("price(" + chord + ", 8)", is == x.price(chord, 8) >= 0);
             DUE.holds("BAD of " + chord, is || x.price(chord, 0) == Due.BAD);
         }
-        for (int v : WILD) {
+        for (int v : Due.WILD) {
             DUE.is("price(" + v + ", 0)", x.price(v, 0), Due.BAD);
             DUE.is("price(0, " + v + ")", x.price(0, v), Due.BAD);
         }

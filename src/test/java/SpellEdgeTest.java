@@ -1,7 +1,6 @@
 /** Each boundary that the document names of names and signs: PRINTED, FITS, DRAWN; promises 17, 22, 23. */
 public final class SpellEdgeTest {
     private static final int F = 0, C = 1, G = 2, D = 3, A = 4, E = 5, B = 6;
-    private static final int[] WILD = {Due.LEAST, Due.LEAST + 1, -1000, 1000000, Due.MOST - 1, Due.MOST};
     private static final Due DUE = new Due();
 
     public static void main(String[] args) {
@@ -109,7 +108,7 @@ public final class SpellEdgeTest {
             DUE.is("note(3, " + what + ")", x.note(3, what), Due.BAD);
             DUE.is("without a piece", new SpelledTones().note(0, what), Due.BAD);
         }
-        for (int v : WILD) {
+        for (int v : Due.WILD) {
             DUE.is("note(" + v + ", 0)", x.note(v, 0), Due.BAD);
             DUE.is("note(0, " + v + ")", x.note(0, v), Due.BAD);
         }

@@ -1,10 +1,10 @@
-import java.util.function.ToIntFunction;
-
 /** What the edge tests share: a sentence of the document, answers held against those that are due by it. */
 final class Due {
     static final int NONE = -1000000, BAD = -1000001, STATE = -1000002, FULL = -1000003;
     static final int NULL = -1000011, PLACE = -1000012, KIND = -1000013, SIZE = -1000014, STORE = -1000015;
     static final int LEAST = Integer.MIN_VALUE, MOST = Integer.MAX_VALUE;
+    /** Far beyond all that a call takes, where numbers wrap around, too. */
+    static final int[] WILD = {LEAST, LEAST + 1, -1000000, 1000000, MOST - 1, MOST};
     /** Behind this piece cost() shows the items of a row: how far two of them are apart, and the price of c. */
     static final String READER = "k7;o0;c0;";
 
@@ -27,10 +27,6 @@ final class Due {
 
     void holds(String what, boolean so) {
         is(what, so ? 1 : 0, 1);
-    }
-
-    void is(String name, SpelledTones x, ToIntFunction<SpelledTones> call, int want) {
-        is(name, call.applyAsInt(x), want);
     }
 
     static int tell(SpelledTones x, String text) {
