@@ -4,7 +4,7 @@ import java.lang.reflect.Method;
 import java.util.Arrays;
 
 /**
- * Two limits that no run of calls reaches, so that they are tried at the classes inside: WAYS above 99999999 (the most
+ * Two limits that no known run of calls reaches, so that they are tried at the classes inside: WAYS above 99999999 (the most
  * that a long search over pieces found are some 1.4 million) and more than 16 numbers in THE TRACE (an ask leaves 6 at most).
  */
 public final class LimitTest {
